@@ -1,0 +1,33 @@
+/** Compares answers with those that are due, tells each one that differs, and ends with code 1 if there was one. */
+final class Check {
+    private final String name;
+    private int made = 0;
+    private int wrong = 0;
+
+    Check(String name) {
+        this.name = name;
+    }
+
+    void same(String what, long got, long due) {
+        made++;
+        if (got != due) {
+            wrong++;
+            System.out.println(name + ": " + what + " answered " + got + ", due is " + due);
+        }
+    }
+
+    void holds(String what, boolean holds) {
+        made++;
+        if (!holds) {
+            wrong++;
+            System.out.println(name + ": " + what + " does not hold");
+        }
+    }
+
+    void end() {
+        System.out.println(name + ": " + made + " checks, " + wrong + " wrong");
+        if (wrong != 0 || made == 0) {
+            System.exit(1);
+        }
+    }
+}
