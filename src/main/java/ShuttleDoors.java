@@ -466,7 +466,9 @@ public final class ShuttleDoors {
         int riders;
 
         State() {
-            System.arraycopy(SETTING_FIRST, 0, settings, 0, SETTING_COUNT);
+            for (int setting = 0; setting < SETTING_COUNT; setting++) {
+                settings[setting] = SETTING_FIRST[setting];
+            }
             for (int flight = 0; flight < FLIGHT_COUNT; flight++) {
                 lands[flight] = 60 * flight;
             }
@@ -810,7 +812,7 @@ public final class ShuttleDoors {
         private static final int END_NEXT = 6;
         private static final int NOTHING = 7;
 
-        // As many characters has a number at most.
+        // A number holds no more characters.
         private static final int LONG_SIZE = 8;
 
         final int[] codes = new int[PAD_SIZE];

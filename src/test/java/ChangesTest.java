@@ -137,6 +137,18 @@ public final class ChangesTest {
         x.van(0, 60, 0);
         check.same("a stranded one pays nothing", x.cancel(0), 0);
         check.same("nobody is left", x.count(5), 0);
+        ShuttleDoors y = new ShuttleDoors();
+        y.ride(0, 0, 0, 4);
+        y.ride(2, 0, 0, 4);
+        y.ride(0, 0, 0, 3);
+        y.ride(4, 0, 0, 4);
+        check.same("stranded by the first", y.rider(2, 5), -106);
+        check.same("the first goes", y.cancel(0), 66);
+        check.same("flight of the second", y.rider(0, 0), 2);
+        check.same("its van", y.rider(0, 5), 2);
+        check.same("the third gets the seats", y.rider(1, 5), 0);
+        check.same("the last moved, too", y.rider(2, 5), 4);
+        check.same("nobody is stranded", y.count(8), 0);
     }
 
     private static void rebook() {

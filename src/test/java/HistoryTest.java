@@ -144,7 +144,9 @@ public final class HistoryTest {
         check.same("fare", x.rider(0, 8), 69);
         check.same("the pad stays", x.count(14), 3);
         x.cancel(0);
+        check.same("nobody in the van", x.vanOf(1, 2), 0);
         check.same("the slot keeps it", x.restore(1), 1);
+        check.same("people in the van again", x.vanOf(1, 2), 4);
         check.same("changes", x.count(15), 6);
         check.same("undo", x.undo(), 5);
         check.same("riders", x.count(5), 0);

@@ -16,6 +16,7 @@ public final class QueriesTest {
         stop();
         count();
         kerb();
+        afterCancel();
         check.end();
     }
 
@@ -92,6 +93,7 @@ public final class QueriesTest {
         for (int what = 0; what < stranded.length; what++) {
             check.same("rider(3, " + what + ")", x.rider(3, what), stranded[what]);
         }
+        check.same("the other at the stop", x.rider(1, 9), 1);
         check.same("alone at its stop", x.rider(2, 9), 0);
         check.same("rider(-1)", x.rider(-1, 0), -101);
         check.same("rider(4), ahead of what", x.rider(4, 10), -101);
@@ -250,6 +252,24 @@ public final class QueriesTest {
         y.set(ShuttleDoors.AREAS, 1);
         check.same("vans 0 and 1", y.count(11), 2);
         check.same("the last one is in the lower van or the greater", y.count(13), 125);
+    }
+
+    /** A rider who is gone counts nowhere. */
+    private static void afterCancel() {
+        ShuttleDoors x = airport("0a0x2,0a0x3");
+        x.cancel(1);
+        check.same("people", x.count(6), 2);
+        check.same("fares", x.count(10), 66);
+        check.same("kerb", x.kerb(30), 2);
+        check.same("others at the stop", x.rider(0, 9), 0);
+        check.same("people of the flight", x.flight(0, 3), 2);
+        check.same("riders as a set", x.vanOf(0, 3), 1);
+        check.same("people at the stop", x.stop(0, 0, 3), 2);
+        check.same("the last one, in van 0", x.count(13), 70);
+        x.cancel(0);
+        check.same("fares of nobody", x.count(10), 0);
+        check.same("kerb without anybody", x.kerb(30), 0);
+        check.same("stops without anybody", x.count(12), 0);
     }
 
     private static void kerb() {

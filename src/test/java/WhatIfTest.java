@@ -68,6 +68,11 @@ public final class WhatIfTest {
         check.same("later, but with none more stranded", y.mostDelay(0), 30);
         y.van(1, 120, 8);
         check.same("both in one", y.mostDelay(0), 90);
+        y.delay(0, 91);
+        check.same("one is stranded now", y.count(8), 4);
+        y.van(7, 330, 4);
+        check.same("none would be, that late", y.ifDelayed(0, 300, 0), 0);
+        check.same("fewer stranded will do", y.mostDelay(0), 300);
     }
 
     private static void bestMinute() {
@@ -108,13 +113,39 @@ public final class WhatIfTest {
         y.cancel(1);
         y.ride(1, 0, 0, 1);
         check.same("as many people, as little waiting: the least", y.bestMinute(0), 30);
+        ShuttleDoors z = new ShuttleDoors();
+        for (int v = 0; v < 8; v++) {
+            z.van(v, 0, 0);
+        }
+        z.ride(0, 0, 0, 2);
+        z.ride(1, 0, 0, 1);
+        z.van(1, 40, 4);
+        z.van(0, 0, 1);
+        // The first goes in van 1; the second is stranded but for 90 to 150.
+        check.same("the least waiting of the fewest stranded", z.bestMinute(0), 90);
+        z.van(2, 1100, 1);
+        z.land(1, 1010);
+        z.set(ShuttleDoors.PATIENCE, 240);
+        // Nobody is stranded at any minute; the second waits 60 in van 2, and in van 0 from 0 on.
+        check.same("less waiting, then more again", z.bestMinute(0), 1040);
+        z.van(2, 1041, 1);
+        z.land(2, 1007);
+        z.ride(2, 0, 0, 1);
+        // Ready at 1040 and 1037: at 1040 they wait 1 and 3, at 1045 they would wait 5 and 4.
+        check.same("both go, and wait the least", z.bestMinute(0), 1040);
     }
 
     private static void fullest() {
         ShuttleDoors x = new ShuttleDoors();
         check.same("without riders", x.fullest(), -106);
+        x.ride(1, 0, 0, 1);
+        check.same("one alone", x.fullest(), 1);
+        x.cancel(0);
         x.ride(3, 0, 0, 2);
         check.same("the only one", x.fullest(), 3);
+        x.ride(0, 0, 0, 3);
+        check.same("van 0", x.fullest(), 0);
+        x.cancel(1);
         x.ride(5, 0, 0, 3);
         check.same("most people", x.fullest(), 5);
         x.ride(2, 0, 0, 3);
