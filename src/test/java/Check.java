@@ -24,9 +24,14 @@ final class Check {
         }
     }
 
+    /** Something was checked, and all of it was as due. */
+    boolean isGood() {
+        return made > 0 && wrong == 0;
+    }
+
     void end() {
         System.out.println(name + ": " + made + " checks, " + wrong + " wrong");
-        if (wrong != 0 || made == 0) {
+        if (!isGood()) {
             System.exit(1);
         }
     }

@@ -20,4 +20,12 @@ final class Texts {
         }
         return answer;
     }
+
+    /** A new object to which the riders of a text came. */
+    static ShuttleDoors airport(String text) {
+        ShuttleDoors x = new ShuttleDoors();
+        put(x, text);
+        x.read();
+        return x;
+    }
 }
