@@ -2,7 +2,7 @@ import java.util.List;
 import java.util.function.Consumer;
 import java.util.function.IntPredicate;
 
-/** Terms: texts. Promises 7 read, 20 put, 21 wipe, 22 fault. */
+/** Terms: texts. Promises 20 to 22: put, wipe, fault. */
 final class PadSentences {
     private static final int NONE = -106;
     private static final String FULL = "0a0,1b1x3,2c22,3d3,4e44x4,5f55,0a66x1,1b77x2,2c88,3d9x1,4e10";

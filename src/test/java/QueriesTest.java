@@ -20,13 +20,6 @@ public final class QueriesTest {
         check.end();
     }
 
-    private static ShuttleDoors airport(String text) {
-        ShuttleDoors x = new ShuttleDoors();
-        Texts.put(x, text);
-        x.read();
-        return x;
-    }
-
     private static void vans(String name, ShuttleDoors x, int... due) {
         for (int r = 0; r < due.length; r++) {
             check.same(name + ", van of " + r, x.rider(r, 5), due[r]);
@@ -34,7 +27,7 @@ public final class QueriesTest {
     }
 
     private static void orderOfRiders() {
-        ShuttleDoors x = airport("1a0x4,0a0x4,0a0x2,1a0x1");
+        ShuttleDoors x = Texts.airport("1a0x4,0a0x4,0a0x2,1a0x1");
         x.set(ShuttleDoors.PATIENCE, 240);
         vans("by ready", x, 1, 0, 0, 1);
         x.land(0, 60);
@@ -44,7 +37,7 @@ public final class QueriesTest {
     }
 
     private static void orderOfVans() {
-        ShuttleDoors x = airport("0a0x2,0a0x2,0a0x2");
+        ShuttleDoors x = Texts.airport("0a0x2,0a0x2,0a0x2");
         x.van(3, 50, 2);
         x.van(6, 50, 2);
         x.van(0, 51, 2);
@@ -56,7 +49,7 @@ public final class QueriesTest {
     }
 
     private static void patience() {
-        ShuttleDoors x = airport("0a0");
+        ShuttleDoors x = Texts.airport("0a0");
         x.van(1, 1500, 6);
         x.van(0, 90, 6);
         vans("60 minutes", x, 0);
@@ -74,7 +67,7 @@ public final class QueriesTest {
     }
 
     private static void areas() {
-        ShuttleDoors x = airport("0a0,0b0,0c0,0d0,0c1,0a9");
+        ShuttleDoors x = Texts.airport("0a0,0b0,0c0,0d0,0c1,0a9");
         vans("three areas", x, 0, 0, 0, -106, 0, 0);
         check.same("areas as a set", x.vanOf(0, 4), 7);
         x.set(ShuttleDoors.AREAS, 1);
@@ -84,7 +77,7 @@ public final class QueriesTest {
     }
 
     private static void rider() {
-        ShuttleDoors x = airport("2c7x2,2c7,2e8,2c7x3");
+        ShuttleDoors x = Texts.airport("2c7x2,2c7,2e8,2c7x3");
         int[] due = {2, 2, 7, 2, 150, 2, 30, 200, 34, 1};
         for (int what = 0; what < due.length; what++) {
             check.same("rider(0, " + what + ")", x.rider(0, what), due[what]);
@@ -101,7 +94,7 @@ public final class QueriesTest {
         check.same("what 10", x.rider(0, 10), -102);
         check.same("what 10 of a stranded one", x.rider(3, 10), -102);
         check.same("changes", x.count(15), 1);
-        ShuttleDoors y = airport("0b7,0c7,0b8,1b7");
+        ShuttleDoors y = Texts.airport("0b7,0c7,0b8,1b7");
         check.same("same door, another area", y.rider(0, 9), 0);
         check.same("same stop, another van", y.rider(3, 9), 0);
         y.van(0, 60, 0);
@@ -111,7 +104,7 @@ public final class QueriesTest {
     }
 
     private static void fares() {
-        ShuttleDoors x = airport("0a0x2,0a0,0b0x3");
+        ShuttleDoors x = Texts.airport("0a0x2,0a0,0b0x3");
         check.same("20 and 4", x.rider(0, 8), 24);
         check.same("10 and 2", x.rider(1, 8), 12);
         check.same("30 and 6", x.rider(2, 8), 36);
@@ -125,7 +118,7 @@ public final class QueriesTest {
 
     private static void faresLeftOver() {
         // Ready are they in the order 2, 0, 1, 3; but what is left over goes by numbers.
-        ShuttleDoors x = airport("1a5,1a6,0a5,1b1x3");
+        ShuttleDoors x = Texts.airport("1a5,1a6,0a5,1b1x3");
         x.set(ShuttleDoors.COST, 11);
         x.set(ShuttleDoors.DOOR, 7);
         x.van(0, 90, 6);
@@ -147,7 +140,7 @@ public final class QueriesTest {
     }
 
     private static void vanOf() {
-        ShuttleDoors x = airport("0b3x2,1a1,0f3,0b3");
+        ShuttleDoors x = Texts.airport("0b3x2,1a1,0f3,0b3");
         int[] due = {60, 6, 4, 0b1101, 0b100010, 2, 95, 72};
         for (int what = 0; what < due.length; what++) {
             check.same("vanOf(0, " + what + ")", x.vanOf(0, what), due[what]);
@@ -177,7 +170,7 @@ public final class QueriesTest {
     }
 
     private static void way() {
-        ShuttleDoors x = airport("0f1,0c50,0c9,0c50,0d0,0c0");
+        ShuttleDoors x = Texts.airport("0f1,0c50,0c9,0c50,0d0,0c0");
         int[][] due = {{2, 0, 80, 1}, {2, 9, 83, 1}, {2, 50, 86, 2}, {3, 0, 91, 1}, {5, 1, 101, 1}};
         for (int place = 0; place < due.length; place++) {
             for (int what = 0; what < 4; what++) {
@@ -191,7 +184,7 @@ public final class QueriesTest {
     }
 
     private static void flight() {
-        ShuttleDoors x = airport("2a0x4,2a0x3,3a0x2,2a0x1");
+        ShuttleDoors x = Texts.airport("2a0x4,2a0x3,3a0x2,2a0x1");
         x.delay(2, -10);
         int[] due = {120, -10, 140, 8, 3};
         for (int what = 0; what < due.length; what++) {
@@ -206,7 +199,7 @@ public final class QueriesTest {
     }
 
     private static void stop() {
-        ShuttleDoors x = airport("0f99x4");
+        ShuttleDoors x = Texts.airport("0f99x4");
         int[] due = {5, 99, 95, 4};
         for (int what = 0; what < due.length; what++) {
             check.same("stop(0, 0, " + what + ")", x.stop(0, 0, what), due[what]);
@@ -223,7 +216,7 @@ public final class QueriesTest {
     }
 
     private static void count() {
-        ShuttleDoors x = airport("0a1x2,0a1,1f2x4,0a0x4");
+        ShuttleDoors x = Texts.airport("0a1x2,0a1,1f2x4,0a0x4");
         x.set(0, 29);
         Texts.put(x, "abc");
         // Ready at 29, 29, 89, 29; vans 0, 0, 1 and none; 31 minutes each.
@@ -244,7 +237,7 @@ public final class QueriesTest {
         check.same("no stops", x.count(12), 0);
         x.land(1, 61);
         check.same("one goes", x.count(11), 1);
-        ShuttleDoors y = airport("0f0,1a0");
+        ShuttleDoors y = Texts.airport("0f0,1a0");
         y.van(0, 90, 6);
         y.van(1, 90, 2);
         y.land(1, 0);
@@ -256,7 +249,7 @@ public final class QueriesTest {
 
     /** A rider who is gone counts nowhere. */
     private static void afterCancel() {
-        ShuttleDoors x = airport("0a0x2,0a0x3");
+        ShuttleDoors x = Texts.airport("0a0x2,0a0x3");
         x.cancel(1);
         check.same("people", x.count(6), 2);
         check.same("fares", x.count(10), 66);
@@ -273,7 +266,7 @@ public final class QueriesTest {
     }
 
     private static void kerb() {
-        ShuttleDoors x = airport("0a0x2,0a0x4,0a0x3,1a0");
+        ShuttleDoors x = Texts.airport("0a0x2,0a0x4,0a0x3,1a0");
         vans("kerb", x, 0, 0, -106, 1);
         int[][] due = {{0, 0}, {29, 0}, {30, 9}, {59, 9}, {60, 3}, {89, 3}, {90, 4}, {91, 1}, {119, 1}, {120, 0}, {3000, 0}};
         for (int[] row : due) {

@@ -54,7 +54,11 @@ public final class SentencesTest {
 
     private static boolean holds(int place, Sentence sentence) {
         Check check = new Check("sentence " + place);
-        sentence.test().accept(check);
+        try {
+            sentence.test().accept(check);
+        } catch (RuntimeException | StackOverflowError thrown) {
+            check.holds("no call throws, but one did: " + thrown, false);
+        }
         if (!check.isGood()) {
             System.out.println("BROKEN: sentence " + place + ", of " + sentence.heading() + ": " + sentence.words());
         }

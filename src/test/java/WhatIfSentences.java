@@ -230,6 +230,10 @@ final class WhatIfSentences {
         z.delay(0, 1);
         check.same("stranded then", z.count(8), 1);
         check.same("as many", z.mostDelay(0), 300);
+        // Ready at 31 like the 1, which has the lower number, the 4 would be stranded: one rider as now, but more people.
+        check.same("people, not riders", z.mostDelay(1), 0);
+        z.delay(1, 1);
+        check.same("they are stranded then", z.mostDelay(1), 300);
     }
 
     private static void mostDelayNoSuch(Check check) {
